@@ -464,9 +464,16 @@ public final class PromiseTests {
         dueThrow(nested, UNSUPPORTED, () -> nested.contract(deep, 0));
         int fit = nested.apply(add(nested, "^x.^y.x"), addNested(nested, 24));
         due(26, nested.contract(fit, 0));
+        int root = nested.apply(addNested(nested, 25), add(nested, "z"));
+        due(25, nested.contract(root, 0));
         Boehmgarth most = new Boehmgarth();
         int exact = add(most, "(^x.^u.xxxxxxxxxx)(yyyyyyyyyy)");
         due(200, most.contract(exact, 0));
+        // The 201st sign is one of the argument, and then one of the body.
+        int argumentLast = add(most, "(^x.^u.^v.xxxxxxxxxx)(yyyyyyyyyy)");
+        dueThrow(most, UNSUPPORTED, () -> most.contract(argumentLast, 0));
+        int bodyLast = add(most, "(^x.xxxxxxxxxxy)(yyyyyyyyyy)");
+        dueThrow(most, UNSUPPORTED, () -> most.contract(bodyLast, 0));
     }
 
     private static void promise20() {
@@ -557,6 +564,15 @@ public final class PromiseTests {
         dueThrow(g, INDEX, () -> g.step(40, 'x'));
         int great = add(g, "(^x.y)((^x.xxxxxxxxxxxxxxxxxxxx)(yyyyyyyyyy))");
         dueThrow(g, UNSUPPORTED, () -> g.step(great, 'a'));
+        // The parts inside are contracted first, and their abstractions come behind those of the body.
+        int fourteen = add(g, "^x.^a.^a.^a.^a.^a.^a.^a.^a.^a.^a.^a.^a.^a.^a.x");
+        int eleven = add(g, "(^y.^a.^a.^a.^a.^a.^a.^a.^a.^a.^a.^a.z)w");
+        int twelve = add(g, "(^y.^a.^a.^a.^a.^a.^a.^a.^a.^a.^a.^a.^a.z)w");
+        int fit = g.apply(fourteen, eleven);
+        due(true, g.step(fit, 'p'));
+        due(26, g.size(fit));
+        int unfit = g.apply(fourteen, twelve);
+        dueThrow(g, UNSUPPORTED, () -> g.step(unfit, 'p'));
         // A part that becomes too great on the way, though it is thrown away then.
         dueThrow(g, UNSUPPORTED, () -> g.step(great, 'p'));
         due(true, g.step(great, 'n'));
@@ -619,6 +635,14 @@ public final class PromiseTests {
         due('a', g.best(add(g, "(^x.xxxxxxxxxxxx)((^y.y(bbbbbbbbb))(^z.c))")));
         int omega = add(g, OMEGA);
         dueThrow(g, NO_ELEMENT, () -> g.best(omega));
+        // One redex at a time: sixty steps, and one more.
+        int identity = add(g, "^x.x");
+        int sixty = g.put(add(g, "iiiiiiiiiiiiiiiiiiiiiiiiiiiiiiiiiiiiiiiiiiiiiiiiiiiiiiiiiiii"), 'i', identity);
+        due('n', g.best(g.apply(sixty, add(g, "a"))));
+        int more = g.apply(g.apply(sixty, identity), add(g, "a"));
+        dueThrow(g, NO_ELEMENT, () -> g.best(more));
+        dueThrow(g, UNSUPPORTED, () -> g.reduce(more, 'p', 60));
+        due(60, g.reduce(g.apply(sixty, add(g, "a")), 'h', 60));
         int term = add(g, "(^x.xx)((^y.y)(^z.a))");
         String before = signs(g, term);
         g.best(term);
@@ -683,6 +707,19 @@ public final class PromiseTests {
         dueThrow(g, UNSUPPORTED, () -> g.treeSigns(deep, 4));
         Boehmgarth h = new Boehmgarth();
         due(199, h.treeSigns(addSize199(h), 4));
+        due(26, h.treeSigns(addNested(h, 25), 4));
+        // Three times eight abstractions, and one or two around them.
+        int eight = h.apply(add(h, "^y.yy"), add(h, "^x.^a.^a.^a.^a.^a.^a.^a.^a.a(xx)"));
+        int once = h.abstraction(eight, 'z');
+        int twice = h.abstraction(once, 'z');
+        due(32, h.treeSigns(once, 3));
+        dueThrow(h, UNSUPPORTED, () -> h.treeSigns(once, 4));
+        dueThrow(h, UNSUPPORTED, () -> h.treeSigns(twice, 3));
+        due(23, h.treeSigns(twice, 2));
+        // What is too great by the abstractions of its own has no form that is found.
+        int twelve = h.apply(add(h, "^y.yy"), add(h, "^x.^a.^a.^a.^a.^a.^a.^a.^a.^a.^a.^a.^a.a(xx)"));
+        due(15, h.treeSigns(twelve, 1));
+        due(1, h.treeSigns(h.abstraction(twelve, 'z'), 1));
     }
 
     private static void promise29() {
@@ -730,6 +767,13 @@ public final class PromiseTests {
         dueThrow(g, UNSUPPORTED, () -> g.unlikeAt(three, one, 4));
         dueThrow(g, UNSUPPORTED, () -> g.unlikeAt(one, three, 4));
         due(2, g.unlikeAt(one, three, 3));
+        int eight = g.apply(add(g, "^y.yy"), add(g, "^x.^a.^a.^a.^a.^a.^a.^a.^a.a(xx)"));
+        int once = g.abstraction(eight, 'z');
+        int twice = g.abstraction(once, 'z');
+        due(9, g.unlikeAt(once, twice, 2));
+        due(1, g.unlikeAt(once, one, 3));
+        dueThrow(g, UNSUPPORTED, () -> g.unlikeAt(twice, one, 3));
+        dueThrow(g, UNSUPPORTED, () -> g.unlikeAt(one, twice, 3));
     }
 
     private static void promise31() {
@@ -793,14 +837,19 @@ public final class PromiseTests {
         due('z', g.typeAt(most, 51));
         due('z', g.typeAt(most, 52));
         dueThrow(g, NO_ELEMENT, () -> g.typeAt(most, 53));
-        // Each triple has a type of 7 signs and three times those of what is in it: 363 signs, and 1093.
+        // A triple has a type of 6 signs and three times those of what is in it, a pair one of 5 and two times those.
         int triple = add(g, "^b.^z.zbbb");
-        int fit = g.put(add(g, "^a.t(t(t(ta)))"), 't', triple);
-        due('a', g.typeAt(fit, 1));
-        due('b', g.typeAt(fit, 15));
-        dueThrow(g, NO_ELEMENT, () -> g.typeAt(fit, 363));
-        int great = g.put(add(g, "^a.t(t(t(t(ta))))"), 't', triple);
+        int pair = add(g, "^b.^z.zbb");
+        int fit = g.put(g.put(add(g, "t(d(t(d(da))))"), 't', triple), 'd', pair);
+        due('>', g.typeAt(fit, 0));
+        due('a', g.typeAt(fit, 10));
+        due('b', g.typeAt(fit, 13));
+        due(g.typeAt(fit, 397), g.typeAt(fit, 398));
+        dueThrow(g, NO_ELEMENT, () -> g.typeAt(fit, 399));
+        // Two signs more.
+        int great = g.abstraction(fit, 'a');
         dueThrow(g, UNSUPPORTED, () -> g.typeAt(great, 0));
+        dueThrow(g, UNSUPPORTED, () -> g.typeAt(great, -1));
         due(true, g.hasType(great));
     }
 
@@ -830,6 +879,19 @@ public final class PromiseTests {
         Boehmgarth h = new Boehmgarth();
         int great = add(h, "^a.^b.^c.^d.^e.^f.^g.^h.^i.hgfedcba(abcdefgh)(hgfedcba)");
         dueThrow(h, UNSUPPORTED, () -> h.combinators(great));
+        String half = "xxxxxxxxxxxxxxxxxxxxxxxxxxxxxxxxxxxxxxxxxxxxxxxx";
+        int first = add(h, half + "xx");
+        int most = h.abstraction(h.apply(first, add(h, half + "xy")), 'x');
+        due(399, h.combinators(most));
+        int more = h.abstraction(h.apply(first, add(h, half + "yy")), 'x');
+        dueThrow(h, UNSUPPORTED, () -> h.combinators(more));
+        // 399 signs again, but 401 on the way.
+        int short399 = add(h, "^x.^y.yxzyyxzyzxzzyyyzzyzzyzxzyzyzzyxxy");
+        due(399, h.combinators(short399));
+        int way = h.abstraction(h.apply(short399, add(h, "w")), 'w');
+        dueThrow(h, UNSUPPORTED, () -> h.combinators(way));
+        h.eta(way);
+        due(399, h.combinators(way));
     }
 
     private static void promise36() {

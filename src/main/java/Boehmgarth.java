@@ -614,8 +614,9 @@ public final class Boehmgarth {
         int argumentsTaken() {
             int taken = 0;
             int i = 0;
-            for (; at(i) == '>' && i < length; taken++) {
+            while (taken < length && at(i) == '>') {
                 i = endOfType(i + 1);
+                taken++;
             }
             return taken;
         }
@@ -937,6 +938,9 @@ public final class Boehmgarth {
                     return false;
                 }
                 inBody.pass(sign);
+            }
+            if (madeSize > end) {
+                return false;
             }
             low = end - madeSize;
             for (int i = 0; i < madeSize; i++) {
