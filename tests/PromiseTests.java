@@ -886,9 +886,9 @@ public final class PromiseTests {
         int more = h.abstraction(h.apply(first, add(h, half + "yy")), 'x');
         dueThrow(h, UNSUPPORTED, () -> h.combinators(more));
         // 399 signs again, but 401 on the way.
-        int short399 = add(h, "^x.^y.yxzyyxzyzxzzyyyzzyzzyzxzyzyzzyxxy");
-        due(399, h.combinators(short399));
-        int way = h.abstraction(h.apply(short399, add(h, "w")), 'w');
+        int small = add(h, "^x.^y.yxzyyxzyzxzzyyyzzyzzyzxzyzyzzyxxy");
+        due(399, h.combinators(small));
+        int way = h.abstraction(h.apply(small, add(h, "w")), 'w');
         dueThrow(h, UNSUPPORTED, () -> h.combinators(way));
         h.eta(way);
         due(399, h.combinators(way));

@@ -669,8 +669,8 @@ public final class Boehmgarth {
         private static final int POINT = 3;
 
         /** What is open around a place: a bracket, or an abstraction by its letter, and where its inside begins. */
-        private final int[] openings = new int[MOST_TYPED + 1];
-        private final int[] insides = new int[MOST_TYPED + 1];
+        private final int[] openings = new int[MOST_TYPED];
+        private final int[] insides = new int[MOST_TYPED];
         private int count;
 
         int faultOf(Row typed) {
@@ -704,7 +704,6 @@ public final class Boehmgarth {
         boolean readInto(Row typed, Row made) {
             made.empty();
             count = 0;
-            open('(', 0);
             boolean isFit = true;
             for (int i = 0; i < typed.length() && isFit; i++) {
                 int sign = typed.at(i);
