@@ -22,6 +22,9 @@ public final class ModelRuns {
         "(^x.x(xa)(xb)(xc))(^y.(^z.zz)y)", "(^x.^y.x)((^x.xxxx)((^x.xxxx)(abc)))", "(^x.xx(xx))((^y.yy)((^z.zz)(ab)))",
     };
 
+    /** What later calls answer is free. */
+    private static final int MOST_CALLS = 512;
+
     private final long[] seed = new long[1];
     private int wrong;
     private final TreeMap<String, Integer> tally = new TreeMap<>();
@@ -54,7 +57,7 @@ public final class ModelRuns {
         if (kind < 6) {
             return TEXTS[draw(TEXTS.length)];
         }
-        String text = drawText(2 + draw(14));
+        String text = drawText(2 + draw(draw(4) == 0 ? 30 : 14));
         if (kind == 6 && text.length() > 0) {
             int at = draw(text.length());
             text = text.substring(0, at) + "^.()xyz".charAt(draw(7)) + text.substring(at + draw(2));
@@ -99,6 +102,9 @@ public final class ModelRuns {
     }
 
     private boolean due(List<String> run, String call, Call asked, Call wanted) {
+        if (run.size() == MOST_CALLS) {
+            return false;
+        }
         String got = answerOf(asked);
         String want = answerOf(wanted);
         String name = call.substring(0, call.indexOf('('));
@@ -237,12 +243,85 @@ public final class ModelRuns {
         return isRight;
     }
 
+    private boolean addText(List<String> run, Boehmgarth x, Garth m, String text) {
+        return typeText(run, x, m, text) && due(run, "term()", x::term, m::term);
+    }
+
+    private boolean addMany(List<String> run, Boehmgarth x, Garth m) {
+        boolean isRight = addText(run, x, m, drawTyped().length() % 2 == 0 ? "^x.xx" : "(^x.xy)a");
+        int most = 36 + draw(5);
+        for (int i = 1; i < most && isRight; i++) {
+            int number = draw(4);
+            isRight = due(run, "number(" + number + ")", () -> x.number(number), () -> m.number(number));
+        }
+        return isRight;
+    }
+
+    /** Terms whose sizes are near the greatest one, with redexes and without. */
+    private boolean addGreat(List<String> run, Boehmgarth x, Garth m) {
+        String inside = "xxxxxxxxxxxxxxxxxxxxxxxxxxxxxxxxxxxxxxxxxxxxx".substring(0, 1 + draw(45));
+        String[] around = {"(^x." + inside + ")((^y.yz)b)", "^y.(^x.y)" + inside, inside + "(^x.x)", "(^z." + inside + "z)y"};
+        boolean isRight = addText(run, x, m, around[draw(4)]) && addText(run, x, m, "x" + inside.substring(inside.length() / 2));
+        for (int i = 0; i < 8 && isRight; i++) {
+            int a = m.size(m.terms() - 1) < 101 && draw(3) != 0 ? m.terms() - 1 : draw(m.terms());
+            int b = draw(m.terms());
+            isRight = draw(2) == 0 ? due(run, "apply(" + a + "," + b + ")", () -> x.apply(a, b), () -> m.apply(a, b))
+                    : due(run, "put(" + a + ",x," + b + ")", () -> x.put(a, 'x', b), () -> m.put(a, 'x', b));
+        }
+        return isRight;
+    }
+
+    /** Terms with nearly as many abstractions inside one another as may be. */
+    private boolean addNested(List<String> run, Boehmgarth x, Garth m) {
+        String[] insides = {"x", "ax", "xa(bx)", "(^y.yx)a", "(^y.^z.x)x", "x((^y.y)b)"};
+        StringBuilder text = new StringBuilder();
+        int most = 6 + draw(8);
+        for (int i = 0; i < most; i++) {
+            text.append('^').append((char) ('a' + i)).append('.');
+        }
+        boolean isRight = addText(run, x, m, text + insides[draw(6)]) && addText(run, x, m, "(^x." + text + insides[draw(6)] + ")x")
+                && addText(run, x, m, "(^y.y)x");
+        for (int i = 0; i < 10 && isRight; i++) {
+            int a = draw(m.terms());
+            int b = draw(m.terms());
+            char letter = "xab".charAt(draw(3));
+            isRight = draw(3) == 0 ? due(run, "apply(" + a + "," + b + ")", () -> x.apply(a, b), () -> m.apply(a, b))
+                    : draw(3) == 0 ? due(run, "abstraction(" + a + "," + letter + ")", () -> x.abstraction(a, letter),
+                            () -> m.abstraction(a, letter))
+                    : due(run, "put(" + a + "," + letter + "," + b + ")", () -> x.put(a, letter, b),
+                            () -> m.put(a, letter, b));
+        }
+        return isRight;
+    }
+
+    private boolean fillBuffer(List<String> run, Boehmgarth x, Garth m) {
+        StringBuilder text = new StringBuilder("((((((((((((");
+        int most = 57 + draw(5);
+        while (text.length() < most) {
+            text.append(draw(9) == 0 ? "^x." : draw(6) == 0 ? ")" : "x");
+        }
+        return typeText(run, x, m, text.toString()) && due(run, "fault()", x::fault, m::fault)
+                && due(run, "term()", x::term, m::term);
+    }
+
+    private boolean begin(List<String> run, Boehmgarth x, Garth m) {
+        switch (draw(8)) {
+            case 0: return addMany(run, x, m);
+            case 1:
+            case 2: return addGreat(run, x, m);
+            case 3:
+            case 4: return addNested(run, x, m);
+            case 5: return fillBuffer(run, x, m);
+            default: return true;
+        }
+    }
+
     private boolean run(long start) {
         seed[0] = start;
         Boehmgarth x = new Boehmgarth();
         Garth m = new Garth();
         List<String> run = new ArrayList<>();
-        boolean isRight = true;
+        boolean isRight = begin(run, x, m);
         for (int i = 0; i < 150 && isRight; i++) {
             int kind = draw(10);
             isRight = kind < 2 || m.terms() < 3 ? addTerm(run, x, m) : kind < 4 ? change(run, x, m) : ask(run, x, m);
