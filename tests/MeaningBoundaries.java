@@ -313,6 +313,25 @@ public final class MeaningBoundaries {
         Boundary.due(0, deep.make().unlikeAt(1, 0, 2));
     }
 
+    static void p30Takes200SignsAndNot201ForEither() {
+        String argument = "((^x.^u.xxxxxxxxxzzzzzzzzz)(yyyyyyyyyy))";
+        Boundary.due(0, Boundary.of("x" + argument, "x").unlikeAt(0, 1, 4));
+        Boundary.due(0, Boundary.of("x" + argument, "x").unlikeAt(1, 0, 3));
+        Boundary.refused(Boundary.UNSUPPORTED, () -> Boundary.of("^v.x" + argument, "x"), g -> g.unlikeAt(0, 1, 4));
+        Boundary.refused(Boundary.UNSUPPORTED, () -> Boundary.of("^v.x" + argument, "x"), g -> g.unlikeAt(1, 0, 3));
+    }
+
+    static void p30Takes25AbstractionsForEither() {
+        Boehmgarth g = under(1, EIGHTS);
+        int other = Boundary.add(g, "x");
+        Boundary.due(0, g.unlikeAt(0, other, 3));
+        Boundary.due(0, g.unlikeAt(other, 0, 3));
+        Boehmgarth deep = Boundary.ofNest(25);
+        int deepest = Boundary.last(deep);
+        Boundary.due(0, deep.unlikeAt(deepest, Boundary.add(deep, "x"), 1));
+        Boundary.due(0, deep.unlikeAt(Boundary.last(deep), deepest, 1));
+    }
+
     static void p30ToldFirstIsTheTermThenTheDepthThenTheSizeThenThatTheyAreAlike() {
         Boundary.Making great = () -> Boundary.of(Boundary.THREEFOLD);
         for (int no : new int[] {-1, 1, 40}) {
@@ -371,6 +390,14 @@ public final class MeaningBoundaries {
         };
         Boundary.refused(Boundary.UNSUPPORTED, deep, g -> g.separated(0, 1));
         Boundary.refused(Boundary.UNSUPPORTED, deep, g -> g.separated(1, 0));
+    }
+
+    static void p31Takes25AbstractionsForEither() {
+        Boehmgarth g = under(1, EIGHTS);
+        int other = Boundary.add(g, "^a.^a.^a.^a.^a.^a.^a.^a.a(^b.^b.^b.^b.^b.^b.^b.^b.b(bb))");
+        int around = g.abstraction(other, 'q');
+        Boundary.due(3, g.separated(0, around));
+        Boundary.due(3, g.separated(around, 0));
     }
 
     static void p31ToldFirstIsTheTermThenTheSizeThenThatTheyAreAlike() {

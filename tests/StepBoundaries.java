@@ -159,6 +159,14 @@ public final class StepBoundaries {
         Boundary.due("^^@^@ACA", Boundary.signs(g, 2));
     }
 
+    static void p19EachCopyOfAnArgumentKeepsItsLetters() {
+        Boehmgarth g = Boundary.of("^y.(^x.^u.xxx)(^z.zy)", "^y.(^x.^u.x(^v.x)x)(z^a.yaz)");
+        g.contract(0, 0);
+        g.contract(1, 0);
+        Boundary.due("^^@@^@AC^@AC^@AC", Boundary.signs(g, 0));
+        Boundary.due("^^@@@z^@@CAz^@z^@@DAz@z^@@CAz", Boundary.signs(g, 1));
+    }
+
     static void p19TheFirstAndTheLastRedexAndNotThoseNextToThem() {
         String text = "a((^x.x)b)((^x.x)c)";
         Boehmgarth first = Boundary.of(text);
@@ -488,6 +496,26 @@ public final class StepBoundaries {
         Boundary.due(true, first.step(0, 'n'));
     }
 
+    /** In place of x the second redex, of which just its body comes: so many abstractions. */
+    private static Boehmgarth bodyOf(int outer, int inner) {
+        Boehmgarth g = Boundary.of("x", "w");
+        int redex = g.apply(g.abstraction(Boundary.addNested(g, inner), 'v'), 1);
+        int body = g.put(Boundary.addNested(g, outer), 'x', Boundary.add(g, "v"));
+        g.copy(g.apply(g.abstraction(body, 'v'), redex), 0);
+        return g;
+    }
+
+    static void p22TheAbstractionThatIsContractedInsideIsGoneOnTheWayByP() {
+        Boehmgarth g = bodyOf(14, 11);
+        Boundary.due(true, g.step(0, 'p'));
+        Boundary.due(26, g.size(0));
+        Boundary.refused(Boundary.UNSUPPORTED, () -> bodyOf(14, 12), x -> x.step(0, 'p'));
+        Boundary.refused(Boundary.UNSUPPORTED, () -> bodyOf(15, 11), x -> x.step(0, 'p'));
+        // By n, the inner redex stands there with its abstraction.
+        Boundary.refused(Boundary.UNSUPPORTED, () -> bodyOf(14, 11), x -> x.step(0, 'n'));
+        Boundary.due(true, bodyOf(14, 10).step(0, 'n'));
+    }
+
     static void p22RefusesWhatIsNoStrategy() {
         for (char strategy : "NAHWPbgimoqvx? .\0\uffff\u016e".toCharArray()) {
             Boundary.refused(Boundary.ARGUMENT, () -> Boundary.of("(^x.x)y"), g -> g.step(0, strategy));
@@ -721,6 +749,8 @@ public final class StepBoundaries {
         eta("^a.^b.^x.abx", 2, "^A");
         eta("^a.^b.a(^x.bax)", 1, "^^@B@AB");
         eta("^a.^b.^c.c(^x.abx)", 1, "^^^@A@CB");
+        eta("^a.^x.(^z.zaz)x", 1, "^^@@ABA");
+        eta("^a.^b.^x.b(^z.zab)(^z.b)x", 1, "^^@@A^@@ACB^B");
     }
 
     static void p26AllOf25AbstractionsGo() {
