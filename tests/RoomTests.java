@@ -1,9 +1,14 @@
 import java.lang.management.ManagementFactory;
 
-/** All calls of a run share one room: an object is small, and its calls make nothing but the exceptions they throw. */
+/** All calls of a run share one room: an object and 512 of its dearest calls stay far below it. */
 public final class RoomTests {
-    private static final long MOST_FOR_AN_OBJECT = 400_000;
-    private static final long MOST_FOR_A_CALL = 1_000;
+    private static final int CALLS = 512;
+
+    /** 7.3 million fields and elements of four bytes. */
+    private static final long ROOM = 4 * 7_300_000L;
+
+    private static final String[] TEXTS = {"(^x.^f.f(xxf)(xxf)(xxf))(^x.^f.f(xxf)(xxf)(xxf))", "(^x.xx)(^x.xx)",
+        "(^x.xxx)(^x.xxx)", "^x.^y.^z.xz(yz)", "(^f.^x.f(f(fx)))(^f.^x.f(f(fx)))", "(^x.xx)((^y.y)a)"};
 
     private static long allocated() {
         com.sun.management.ThreadMXBean bean = (com.sun.management.ThreadMXBean) ManagementFactory.getThreadMXBean();
@@ -18,66 +23,50 @@ public final class RoomTests {
     }
 
     interface Call {
-        void make();
+        Object make(Boehmgarth g, int term);
     }
 
-    private static void tried(Call call) {
+    private static final Call[] DEAR = {(g, t) -> g.typeAt(t, 0), (g, t) -> g.treeSigns(t, 4), (g, t) -> g.treeAt(t, 3, 1),
+        (g, t) -> g.unlikeAt(t, 0, 4), (g, t) -> g.separated(t, 1), (g, t) -> g.combinators(t),
+        (g, t) -> g.combinatorAt(t, 1), (g, t) -> g.betas(t, true), (g, t) -> g.betas(t, false),
+        (g, t) -> g.headArguments(t), (g, t) -> g.best(t), (g, t) -> g.joins(t, 0, 1), (g, t) -> g.residuals(t, 0, 1),
+        (g, t) -> g.reduce(t, 'a', 60), (g, t) -> g.contract(t, 7), (g, t) -> g.numberOf(t), (g, t) -> g.hasType(t),
+        (g, t) -> g.isSolved(t), (g, t) -> g.checksum(), (g, t) -> g.isSound(), (g, t) -> g.term()};
+
+    private static void tried(Call call, Boehmgarth g, int term) {
         try {
-            call.make();
+            call.make(g, term);
         } catch (RuntimeException e) {
             // What is thrown is looked at by the other tests.
         }
     }
 
-    private static int askAll(Boehmgarth g, int term) {
-        tried(() -> g.typeAt(term, 0));
-        tried(() -> g.treeSigns(term, 4));
-        tried(() -> g.treeAt(term, 3, 1));
-        tried(() -> g.unlikeAt(term, 0, 4));
-        tried(() -> g.separated(term, 1));
-        tried(() -> g.combinators(term));
-        tried(() -> g.combinatorAt(term, 1));
-        tried(() -> g.betas(term, true));
-        tried(() -> g.betas(term, false));
-        tried(() -> g.headArguments(term));
-        tried(() -> g.best(term));
-        tried(() -> g.joins(term, 0, 1));
-        tried(() -> g.residuals(term, 0, 1));
-        tried(() -> g.reduce(term, 'p', 60));
-        tried(() -> g.step(term, 'n'));
-        tried(() -> g.eta(term));
-        tried(() -> g.numberOf(term));
-        tried(() -> g.hasType(term));
-        tried(() -> g.isSolved(term));
-        g.checksum();
-        g.isSound();
-        return 21;
+    /** A run of one dear call again and again, on a new object: how many bytes were made in it. */
+    private static long runOf(Call call) {
+        long before = allocated();
+        Boehmgarth g = new Boehmgarth();
+        int calls = 0;
+        for (String text : TEXTS) {
+            add(g, text);
+            calls += text.length() + 1;
+        }
+        for (; calls < CALLS; calls++) {
+            tried(call, g, calls % TEXTS.length);
+        }
+        return allocated() - before;
     }
 
     public static void main(String[] args) {
-        String[] texts = {"(^x.^f.f(xxf)(xxf)(xxf))(^x.^f.f(xxf)(xxf)(xxf))", "(^x.xx)(^x.xx)", "(^x.xxx)(^x.xxx)",
-            "^x.^y.^z.xz(yz)", "(^f.^x.f(f(fx)))(^f.^x.f(f(fx)))", "(^x.xx)((^y.y)a)"};
-        allocated();
-        long before = allocated();
-        Boehmgarth g = new Boehmgarth();
-        long made = allocated() - before;
-        for (String text : texts) {
-            add(g, text);
-        }
         // The first round loads classes.
-        for (int i = 0; i < texts.length; i++) {
-            askAll(g, i);
+        for (Call call : DEAR) {
+            runOf(call);
         }
-        before = allocated();
-        int calls = 0;
-        for (int round = 0; round < 4; round++) {
-            for (int i = 0; i < texts.length; i++) {
-                calls += askAll(g, i);
-            }
+        long most = 0;
+        for (Call call : DEAR) {
+            most = Math.max(most, runOf(call));
         }
-        long each = (allocated() - before) / calls;
-        System.out.println(made + " bytes for an object, " + each + " for a call");
-        if (made > MOST_FOR_AN_OBJECT || each > MOST_FOR_A_CALL) {
+        System.out.println("the dearest run makes " + most + " bytes of " + ROOM);
+        if (most > ROOM) {
             System.exit(1);
         }
     }

@@ -20,15 +20,19 @@ public final class StepBoundaries {
         return g;
     }
 
-    /** The identity applied to itself and so on, so many in all, and then to a: so many steps by n, a, h, w and p. */
-    private static Boehmgarth identities(int times) {
-        Boehmgarth g = Boundary.of("i", "^x.x");
+    /** Adds a letter i applied to itself and so on, so many in all, and then to a; the first term is i. */
+    private static int addChain(Boehmgarth g, int times) {
         int letters = Boundary.add(g, Boundary.times(times > 60 ? 60 : times, "i"));
         for (int i = 60; i < times; i++) {
             letters = g.apply(letters, 0);
         }
-        int applied = g.apply(letters, Boundary.add(g, "a"));
-        g.copy(g.put(applied, 'i', 1), 0);
+        return g.apply(letters, Boundary.add(g, "a"));
+    }
+
+    /** So many identities in front of a: so many steps by n, a, h, w and p. */
+    private static Boehmgarth identities(int times) {
+        Boehmgarth g = Boundary.of("i", "^x.x");
+        g.copy(g.put(addChain(g, times), 'i', 1), 0);
         return g;
     }
 
@@ -478,6 +482,11 @@ public final class StepBoundaries {
         int both = g.apply(0, 0);
         Boundary.due(true, g.step(both, 'p'));
         Boundary.due("@yy", Boundary.signs(g, both));
+        // A part with 25 abstractions inside one another, thrown away behind five others.
+        Boehmgarth deep = thrownAway(12, 13);
+        int around = deep.put(Boundary.addNested(deep, 5), 'x', 0);
+        Boundary.due(true, deep.step(around, 'p'));
+        Boundary.due("^^^^^y", Boundary.signs(deep, around));
     }
 
     /** A redex that is thrown away, of which so many abstractions inside one another come. */
@@ -661,16 +670,19 @@ public final class StepBoundaries {
         Boundary.refused(Boundary.NO_ELEMENT, () -> identities(61), g -> g.best(0));
     }
 
-    /** Two chains of identities side by side: by n one behind the other, by p at once. */
+    /** Two chains of identities side by side: by n and a one behind the other, by p at once. */
     private static Boehmgarth chains(int first, int second) {
         Boehmgarth g = Boundary.of("i", "^x.x", "d");
-        int one = g.apply(Boundary.add(g, Boundary.times(first, "i")), 2);
-        int other = g.apply(Boundary.add(g, Boundary.times(second, "i")), 2);
+        int one = addChain(g, first);
+        int other = addChain(g, second);
         g.copy(g.put(g.apply(g.apply(2, one), other), 'i', 1), 0);
         return g;
     }
 
-    static void p25WhatTakes61StepsByNCanTakeFewerByP() {
+    static void p25Takes60StepsByPAndNot61ThoughNTakesMore() {
+        Boundary.due('p', chains(59, 1).best(0));
+        Boundary.due('p', chains(60, 1).best(0));
+        Boundary.refused(Boundary.NO_ELEMENT, () -> chains(61, 1), g -> g.best(0));
         Boundary.due('p', chains(31, 30).best(0));
         Boundary.due(31, chains(31, 30).reduce(0, 'p', 60));
         Boundary.refused(Boundary.UNSUPPORTED, () -> chains(31, 30), g -> g.reduce(0, 'n', 60));
