@@ -1390,7 +1390,8 @@ public final class Boehmgarth {
             made.empty();
             int i = low;
             boolean isFit = true;
-            while (i < end && isFit) {
+            // Each turn goes on by a sign or more.
+            for (int turn = low; turn < end && i < end && isFit; turn++) {
                 int partEnd = endOf(i);
                 int right = held[i] == '@' ? endOf(i + 1) : NOWHERE;
                 if (!hasLetter(i, partEnd)) {
